@@ -459,14 +459,18 @@ public final class PromisesTest {
         due("nothing more was made", x.told(2), 8);
     }
 
-    /** 3000 things take more than 512 calls of one object, so only what leads there is seen. */
+    /** 3000 things take more than 512 calls, where answers are free: the class keeps its limit even so. */
     private static void thingsFull() {
         PlanCopies x = new PlanCopies();
         x.make(0, 8, 1);
-        for (int call = 0; call < 500; call++) {
+        for (int call = 0; call < 3000; call++) {
             due("below 3000", x.thing(0, 0, call % 2, call), 1);
         }
-        due("things", x.told(2), 500);
+        due("plain when full", x.thing(0, 0, 0, 0), FULL);
+        due("marked when full, ahead of faults", x.thing(1, 9, 1, 0), FULL);
+        due("outside when full", x.thing(0, 0, 3, 0), OUTSIDE);
+        due("things", x.told(2), 3000);
+        due("it stayed", x.read(0, 8, 0), 2999);
         due("nothing", x.thing(0, 0, 2, 0), 1);
     }
 
@@ -742,6 +746,12 @@ public final class PromisesTest {
         due("second to third", x.read(0, 8, 2), 10);
         dueFault("third to fourth", x, x.read(0, 8, 3), 1);
         due("no thing was made", x.told(2), 4);
+        x.make(3, 8, 2);
+        x.thing(3, 0, 1, 20);
+        x.thing(3, 1, 0, 21);
+        x.make(4, 9, 3);
+        due("farther back in the other", x.copy(3, 0, 4, 1, 2), STORE);
+        due("still the first one first", x.read(4, 9, 1), 20);
     }
 
     private static void copyRows() {
